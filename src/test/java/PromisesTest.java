@@ -300,13 +300,14 @@ public final class PromisesTest {
         is.same("why(0): a board of five moves ago", cycle.why(0), 3);
         is.badState("play(0): a board of five moves ago", () -> cycle.play(0));
 
-        // the same stones with the other side to move are the same board
         StoneBoard other = knot();
         other.pass();
         other.play(12);
         other.back();
         other.back();
         is.same("why(6) behind moves that were taken back", other.why(6), 3);
+
+        // a stone that takes itself off leaves the same board: whose turn it is does not matter
         StoneBoard passed = Checks.drawn(".O.", "O..", "...");
         passed.pass();
         passed.play(8);
@@ -487,6 +488,8 @@ public final class PromisesTest {
         StoneBoard board = Checks.drawn("X.X", ".O.", "XX.");
         is.same("strings(1)", board.strings(BLACK), 3);
         is.same("strings(2)", board.strings(WHITE), 1);
+        StoneBoard eyes = Checks.drawn(".X.", "XXX", "...");
+        is.same("strings(1): black's free ground is no string", eyes.strings(BLACK), 1);
         is.same("strings(1) of a free board", new StoneBoard(4).strings(BLACK), 0);
         is.same("strings(2) of a free board", new StoneBoard(4).strings(WHITE), 0);
         is.badArgument("strings(0)", () -> board.strings(0));
@@ -676,6 +679,7 @@ public final class PromisesTest {
         is.same("ago(0), a board of five moves ago", longCycle().ago(0), 5);
         now.play(8);
         now.pass();
+        is.same("ago(8), not free, though the stone there is black's own", now.ago(8), -1);
         is.same("ago(0) of several the least", now.ago(0), 0);
 
         // the board before the taking stood twice, a pass between
