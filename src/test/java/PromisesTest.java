@@ -34,7 +34,6 @@ public final class PromisesTest {
         promise20Safe();
         promise21Ago();
         throwingCallsChangeNothing();
-        beyondThePromisedCalls();
         is.end("PromisesTest");
     }
 
@@ -703,30 +702,5 @@ public final class PromisesTest {
         is.same("taken(1) behind them", board.taken(BLACK), 1);
         is.same("taken(2) behind them", board.taken(WHITE), 0);
         is.looks("the board behind them", board, ".XO.", "XO.O", ".XO.", "....");
-    }
-
-    /** Nothing is promised there, but the language asks that no call throws by itself. */
-    private static void beyondThePromisedCalls() {
-        StoneBoard board = new StoneBoard(13);
-        for (int i = 0; i < 100_000 && board.moves() < 1000; i++) {
-            int point = i * 37 % 169;
-            if (board.why(point) == 0) {
-                board.play(point);
-            } else if (board.allowed() == 0) {
-                board.pass();
-            }
-        }
-        is.same("moves() at the limit", board.moves(), 1000);
-        is.badState("play() behind 1,000 moves", () -> playAnywhere(board));
-        is.badState("pass() behind 1,000 moves", board::pass);
-        is.same("back() from the limit", board.back(), 999);
-    }
-
-    private static void playAnywhere(StoneBoard board) {
-        int point = 0;
-        while (board.why(point) != 0) {
-            point++;
-        }
-        board.play(point);
     }
 }

@@ -31,7 +31,31 @@ public final class ReferenceTest {
                 is.yes("n " + n + ", run " + run, wrong == null);
             }
         }
+        for (int seed = 0; seed < 300; seed++) {
+            compareDenseBoard(is, seed);
+        }
         is.end("ReferenceTest");
+    }
+
+    /** A board that one side fills but for a few points: there strings live, or fall by and by. */
+    private static void compareDenseBoard(Checks is, int seed) {
+        Random random = new Random(seed);
+        int n = 2 + seed % 6;
+        int side = 1 + random.nextInt(2);
+        int density = 40 + random.nextInt(50);
+        StoneBoard board = new StoneBoard(n);
+        Reference reference = new Reference(n);
+        for (int point = 0; point < n * n; point++) {
+            int drawn = random.nextInt(100);
+            int kind = drawn < density ? side : drawn < density + 10 ? 3 - side : 0;
+            is.same("put, board " + seed, board.put(point, kind), reference.put(point, kind));
+        }
+        for (int asked = 1; asked <= 2; asked++) {
+            is.same("safe, board " + seed, board.safe(asked), reference.safe(asked));
+        }
+        for (int point = 0; point < n * n; point++) {
+            is.same("alive, board " + seed, board.alive(point), reference.alive(point));
+        }
     }
 
     private String firstWrongCall() {
